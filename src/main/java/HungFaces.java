@@ -26,8 +26,9 @@ public final class HungFaces {
     private static final int HUNDRED = 100;
 
     private static final int LOG_ROWS = 60;
-    private static final int LOG_CELLS = 5;
+    private static final int LOG_HOUR = 0;
     private static final int LOG_PERSON = 1;
+    private static final int LOG_HOOK = 2;
     private static final int LOG_FACE = 3;
     private static final int LOG_WHICH = 4;
     private static final int NO_ROW = -99;
@@ -94,8 +95,9 @@ public final class HungFaces {
         scratch = new State(noLaw);
         kept = new State(noLaw);
         past = new Past(noLaw);
-        doorReader = new DoorReader(tape, now, scratch);
-        lawReader = new LawReader(tape);
+        Cutter cutter = new Cutter(tape);
+        doorReader = new DoorReader(cutter, now, scratch);
+        lawReader = new LawReader(cutter);
         said = new Said();
         market = new Market();
         fault = NONE;
@@ -641,7 +643,7 @@ public final class HungFaces {
     }
 
     public int log(int ago, int what) throws NoSuchElementException {
-        if (what < 0 || what >= LOG_CELLS) {
+        if (what < LOG_HOUR || what > LOG_WHICH) {
             throw new NoSuchElementException("THE LOG has no such thing");
         }
         return now.log.cell(ago, what);
@@ -908,8 +910,8 @@ public final class HungFaces {
         private int wrongByte;
         int lines;
 
-        TextReader(Tape tape, int mostLines) {
-            this.cutter = new Cutter(tape);
+        TextReader(Cutter cutter, int mostLines) {
+            this.cutter = cutter;
             this.mostLines = mostLines;
         }
 
@@ -963,8 +965,8 @@ public final class HungFaces {
         private final State draft;
         private final int[] toldFaces = new int[MOST_PEOPLE];
 
-        DoorReader(Tape tape, State now, State draft) {
-            super(tape, MOST_DOOR_LINES);
+        DoorReader(Cutter cutter, State now, State draft) {
+            super(cutter, MOST_DOOR_LINES);
             this.now = now;
             this.draft = draft;
         }
@@ -1088,8 +1090,8 @@ public final class HungFaces {
         private final int[] code = new int[MOST_TAPE];
         private int size;
 
-        LawReader(Tape tape) {
-            super(tape, MOST_LAW_LINES);
+        LawReader(Cutter cutter) {
+            super(cutter, MOST_LAW_LINES);
         }
 
         void startText() {
@@ -1251,32 +1253,42 @@ public final class HungFaces {
 
     /** THE LOG: a row behind another, the eldest written over when there are 60. */
     private static final class Log {
-        private final int[] cells = new int[LOG_ROWS * LOG_CELLS];
+        /* Every STATE that is kept has a LOG of its own, so a row is but one number: 4 bits for all but HOUR. */
+        private final long[] cells = new long[LOG_ROWS];
         int rows;
         private int nextRow;
 
         void copyFrom(Log other) {
-            System.arraycopy(other.cells, 0, cells, 0, LOG_ROWS * LOG_CELLS);
+            System.arraycopy(other.cells, 0, cells, 0, LOG_ROWS);
             rows = other.rows;
             nextRow = other.nextRow;
         }
 
         void addRow(int hour, int person, int hook, int face, int which) {
-            int at = nextRow * LOG_CELLS;
-            cells[at] = hour;
-            cells[at + LOG_PERSON] = person;
-            cells[at + 2] = hook;
-            cells[at + LOG_FACE] = face;
-            cells[at + LOG_WHICH] = which;
+            cells[nextRow] = (long) hour << 16 | person << 12 | hook << 8 | face - NONE << 4 | which;
             nextRow = (nextRow + 1) % LOG_ROWS;
             rows = Math.min(rows + 1, LOG_ROWS);
         }
 
         int cell(int ago, int what) {
-            if (ago < 0 || ago >= rows || what < 0 || what >= LOG_CELLS) {
+            if (ago < 0 || ago >= rows) {
                 return NO_ROW;
             }
-            return cells[Math.floorMod(nextRow - 1 - ago, LOG_ROWS) * LOG_CELLS + what];
+            long row = cells[Math.floorMod(nextRow - 1 - ago, LOG_ROWS)];
+            switch (what) {
+                case LOG_HOUR:
+                    return (int) (row >> 16);
+                case LOG_PERSON:
+                    return (int) (row >> 12) & 15;
+                case LOG_HOOK:
+                    return (int) (row >> 8) & 15;
+                case LOG_FACE:
+                    return ((int) (row >> 4) & 15) + NONE;
+                case LOG_WHICH:
+                    return (int) row & 15;
+                default:
+                    return NO_ROW;
+            }
         }
     }
 

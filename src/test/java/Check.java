@@ -28,6 +28,14 @@ final class Check {
         due(what, got ? 1 : 0, want ? 1 : 0);
     }
 
+    static void due(String what, String got, String want) {
+        made++;
+        if (!got.equals(want)) {
+            wrong++;
+            System.out.println(what + " answered " + got + ", due is " + want);
+        }
+    }
+
     static void throwsDue(String what, String want, Call call) {
         made++;
         String got = thrownBy(call);

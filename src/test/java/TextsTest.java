@@ -82,7 +82,8 @@ public final class TextsTest {
         Check.due("empty door", x.door(), 1);
         Check.tape(x, "     ");
         Check.due("blank door", x.door(), 2);
-        Check.tape(x, "  person10000001 11111111 ;person 01100000 00000000;wed1 0;knows 0 1 1;wish 1 1;mix 100;thief 007 ");
+        Check.tape(x, "  person10000001 11111111 ;person 01100000 00000000;wed1 0;knows 0 1 1;wish 1 1;mix 100;"
+                + "thief 007 ");
         Check.due("door of all", x.door(), 3);
         Check.due("people", x.count(0), 2);
         Check.due("face marks", x.face(0, 0), 129);
@@ -97,7 +98,8 @@ public final class TextsTest {
         Check.due("mix", x.count(6), 100);
         Check.due("thief", x.count(7), 7);
         Check.due("texts", x.count(3), 3);
-        Check.door(x, "person 00000000 00000000;person 00000000 00000000;wish 1 3 1;person 00000000 00000000;mix 0;hooks 12");
+        Check.door(x, "person 00000000 00000000;person 00000000 00000000;wish 1 3 1;person 00000000 00000000;"
+                + "mix 0;hooks 12");
         int[] wishes = {3, 1, 0, 2, 4, -1};
         for (int k = 0; k < wishes.length; k++) {
             Check.due("later wish " + k, x.wish(1, k), wishes[k]);
