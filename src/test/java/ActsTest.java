@@ -77,6 +77,8 @@ public final class ActsTest {
         refused(x, "hook -1", Check.INDEX, () -> x.hook(-1));
         Check.due("wish by numbers", x.wish(2, 0), 0);
         Check.due("wish by numbers", x.wish(2, 2), 2);
+        Check.due("wish for those who came later", x.wish(0, 1), 1);
+        Check.due("wish for those who came later", x.wish(0, 2), 2);
         Check.due("wish 3", x.wish(2, 3), NONE);
         Check.due("wish -1", x.wish(2, -1), NONE);
         refused(x, "wish of 3", Check.INDEX, () -> x.wish(3, 0));

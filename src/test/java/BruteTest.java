@@ -26,6 +26,7 @@ public final class BruteTest {
             ticketsAsTried(x, orders);
             forgedAsTried(x);
             chainAsTried(x);
+            hearsAsTold(x);
         }
         Check.close();
     }
@@ -54,7 +55,8 @@ public final class BruteTest {
             int one = RANDOM.nextInt(people);
             int other = (one + 1 + RANDOM.nextInt(people - 1)) % people;
             if (x.count(3) < 12) {
-                Check.door(x, "knows " + one + " " + other);
+                String back = RANDOM.nextInt(3) == 0 ? "" : ";knows " + other + " " + one;
+                Check.door(x, "knows " + one + " " + other + back);
             }
         }
         return x;
@@ -351,6 +353,37 @@ public final class BruteTest {
             best = hang && (have & marks) == marks && better(set, best) ? set : best;
         }
         Check.due("forged", x.forged(marks), best);
+    }
+
+    private static void hearsAsTold(HungFaces x) {
+        int people = x.count(0);
+        boolean[][] knows = new boolean[people][people];
+        for (int i = 0; i < people; i++) {
+            for (int j = 0; j < people; j++) {
+                knows[i][j] = (x.person(i, 4) >> j & 1) != 0;
+            }
+        }
+        for (int round = 0; round < 4; round++) {
+            for (int i = 0; i < people; i++) {
+                int bits = 0;
+                for (int j = 0; j < people; j++) {
+                    bits |= knows[i][j] ? 1 << j : 0;
+                }
+                Check.due("hears", x.hears(i, round), bits);
+            }
+            for (int i = 0; i < people; i++) {
+                for (int j = i + 1; j < people; j++) {
+                    for (int k = 0; k < people && knows[i][j] && knows[j][i]; k++) {
+                        boolean either = knows[i][k] || knows[j][k];
+                        knows[i][k] = either && k != i;
+                        knows[j][k] = either && k != j;
+                        // What both are of each other stays: they KNOW each other.
+                        knows[i][j] = true;
+                        knows[j][i] = true;
+                    }
+                }
+            }
+        }
     }
 
     private static void chainAsTried(HungFaces x) {

@@ -91,13 +91,13 @@ final class Check {
         return door(new HungFaces(), text);
     }
 
-    /** So many PEOPLE, the FACE of each with the MARKS of its number, the MASKS without any. */
+    /** So many PEOPLE by one text, the FACE of each with the MARKS of its number, the MASKS without any. */
     static HungFaces crowd(int people) {
-        HungFaces x = new HungFaces();
+        StringBuilder text = new StringBuilder();
         for (int i = 0; i < people; i++) {
-            door(x, "person " + figures(i) + " 00000000");
+            text.append(i == 0 ? "" : ";").append("person ").append(figures(i)).append(" 00000000");
         }
-        return x;
+        return opened(text.toString());
     }
 
     static String figures(int bits) {

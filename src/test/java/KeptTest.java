@@ -129,7 +129,7 @@ public final class KeptTest {
         x.hours(1);
         x.undo();
         Check.due("law is back", x.count(4), 1);
-        Check.due("texts are back", x.count(3), 4);
+        Check.due("texts are back", x.count(3), 1);
         String after = Check.seen(x);
         // The counts come first in what is seen; the acts that can be undone were 1 and are forgotten.
         Check.due("all is back", after.substring(after.indexOf(",")), before.substring(before.indexOf(",")));

@@ -76,7 +76,7 @@ public final class StormTest {
     }
 
     private static void storm() {
-        HungFaces x = new HungFaces();
+        HungFaces x = RANDOM.nextBoolean() ? new HungFaces() : Check.crowd(RANDOM.nextInt(11));
         for (int calls = 0; calls < 400; calls++) {
             int kind = calls < 4 ? 2 : RANDOM.nextInt(52);
             if (kind == 2 || kind == 3) {

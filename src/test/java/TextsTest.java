@@ -201,7 +201,10 @@ public final class TextsTest {
         Check.door(y, ONE);
         Check.due("ten people", y.count(0), 10);
         wrongDoor(y, " " + ONE, 1);
-        Check.door(y, "mix 1");
+        for (int texts = 3; texts < 12; texts++) {
+            Check.tape(y, "mix 1");
+            Check.due("texts", y.door(), texts);
+        }
         Check.due("11 texts", y.count(3), 11);
         Check.tape(y, "mix 2");
         Check.due("the 12th text", y.door(), 12);
@@ -255,6 +258,11 @@ public final class TextsTest {
         Check.law(x, "hand if who<1");
         x.hours(1);
         wrongLaw(x, "hands", 0);
+        wrongLaw(x, "handz", 0);
+        wrongLaw(x, "hand`", 4);
+        wrongLaw(x, "hand{", 4);
+        wrongLaw(x, "hand if 1<2/", 11);
+        wrongLaw(x, "hand if 1<2:", 11);
         wrongLaw(x, "mix 1", 0);
         wrongLaw(x, "hand;", 5);
         wrongLaw(x, "hand own", 5);
@@ -325,6 +333,19 @@ public final class TextsTest {
         Check.due("no line", x.hours(5), 0);
         Check.law(x, "fetch if hook<1 and marks>1 and own");
         Check.due("of the face at the ticket", x.hours(1), 1);
+        HungFaces y = Check.opened(THREE);
+        Check.law(y, "hand");
+        Check.law(y, "fetch");
+        Check.due("in place of the one before", y.hours(1), 0);
+        wrongLaw(y, "hand;hand x", 10);
+        Check.due("a wrong one is none", y.hours(1), 0);
+        Check.law(y, "fetch");
+        Check.due("nothing stays of a wrong one", y.hours(1), 0);
+        String inner = "1<0 or 0<1 and 0+1<1+1";
+        for (int deep = 0; deep < 6; deep++) {
+            inner = "1<0 or 0<1 and (" + inner + ")";
+        }
+        Check.due("all that can wait", handedBy(inner), 7);
     }
 
     private static void faultOfLatest() {
