@@ -1386,10 +1386,11 @@ public final class HungFaces {
             }
         }
 
+        /** A HOOK whose TICKET is out is taken, too: without it the TICKET would be the number of no HOOK. */
         int lastTakenHook() {
             int last = NONE;
             for (int hook = 0; hook < hooks; hook++) {
-                if (hung[hook] != NONE) {
+                if (hung[hook] != NONE || ticketIsOut(hook)) {
                     last = hook;
                 }
             }
@@ -1567,7 +1568,7 @@ public final class HungFaces {
 
         // -- what is asked --
 
-        /** NONE for a TICKET that is none, too; a TICKET may outlive its HOOK. */
+        /** NONE for a TICKET that is none, too. */
         int faceAt(int hook) {
             return hook >= 0 && hook < MOST_HOOKS ? hung[hook] : NONE;
         }

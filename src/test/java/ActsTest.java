@@ -138,15 +138,6 @@ public final class ActsTest {
         Check.due("ticket of none given up", x.person(1, 2), NONE);
         logged(x, 0, 0, 1, 4, NONE, 1);
         refused(x, "fetch again", Check.STATE, () -> x.fetch(1));
-        // The TICKET of a HOOK that is no more.
-        HungFaces y = three();
-        y.hand(0, 5);
-        y.steal(0, 5);
-        Check.door(y, "hooks 1");
-        Check.due("ticket outlives the hook", y.person(0, 2), 5);
-        y.hand(1, 0);
-        Check.due("queue to the lost hook", y.queue(-1), 1 + 5 + 2);
-        y.change(0, 2);
     }
 
     private static void mixing() {

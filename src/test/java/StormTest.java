@@ -107,13 +107,16 @@ public final class StormTest {
         }
     }
 
-    /** Each FACE is in one place, and each HOOK with a FACE has its TICKET out. */
+    /** Each FACE is in one place, each TICKET is of a HOOK, and each HOOK with a FACE has its TICKET out. */
     private static void holdsTogether(HungFaces x) {
         int places = 0;
+        boolean ofHooks = true;
         for (int face = 0; face < x.count(0); face++) {
             places += (x.face(face, 1) == HungFaces.NONE ? 0 : 1) + (x.face(face, 2) == HungFaces.NONE ? 0 : 1);
+            ofHooks &= x.person(face, 2) < x.count(1);
         }
         Check.due("places of faces", places, x.count(0));
+        Check.due("tickets are of hooks", ofHooks, true);
         Check.due("lost", x.lost(), 0);
         Check.due("unclaimed", x.unclaimed(), 0);
     }

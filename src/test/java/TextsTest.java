@@ -10,6 +10,7 @@ public final class TextsTest {
         ending();
         doorTells();
         doorWrong();
+        hooksOfTickets();
         doorLimits();
         lawTells();
         lawWrong();
@@ -182,6 +183,36 @@ public final class TextsTest {
         Check.tape(y, "hooks 4");
         Check.due("hooks above the last taken", y.door(), 2);
         Check.due("four hooks", y.count(1), 4);
+    }
+
+    private static void hooksOfTickets() {
+        HungFaces x = Check.opened(THREE);
+        x.hand(0, 5);
+        x.hand(1, 0);
+        x.steal(0, 5);
+        Check.due("no face hangs there", x.hook(5), -1);
+        wrongDoor(x, "hooks 3", 6);
+        wrongDoor(x, "hooks 5", 6);
+        wrongDoor(x, "mix 7;hooks 12; hooks 5", 22);
+        Check.tape(x, "hooks 12;hooks 6");
+        Check.due("hooks above the last ticket", x.door(), 2);
+        Check.due("six hooks", x.count(1), 6);
+        x.mix(0, 1);
+        wrongDoor(x, "hooks 5", 6);
+        x.image();
+        Check.due("none hangs at the ticket", x.fetch(1), -1);
+        Check.tape(x, "hooks 1");
+        Check.due("hooks above a ticket given up", x.door(), 3);
+        Check.due("one hook", x.count(1), 1);
+        x.back();
+        wrongDoor(x, "hooks 1", 6);
+        // A TICKET below the last FACE, and one above it.
+        x.hand(2, 3);
+        wrongDoor(x, "hooks 4", 6);
+        x.fetch(1);
+        wrongDoor(x, "hooks 3", 6);
+        Check.door(x, "hooks 4");
+        Check.due("hooks above the last face", x.count(1), 4);
     }
 
     private static void doorLimits() {
