@@ -23,13 +23,6 @@ public final class ActsTest {
         return Check.opened("person 11000000 10000000;person 11000000 01000000;person 00100001 10000000;wed 0 2");
     }
 
-    /** A call that throws leaves all as it was. */
-    private static void refused(HungFaces x, String what, String want, Check.Call call) {
-        String before = Check.seen(x);
-        Check.throwsDue(what, want, call);
-        Check.due(what + " changes nothing", Check.seen(x).equals(before), true);
-    }
-
     private static void personAndFace() {
         HungFaces x = three();
         int[] person = {1, 0, NONE, 2, 0, 1};
@@ -44,13 +37,13 @@ public final class ActsTest {
         Check.due("face(2, 3)", x.face(2, 3), 0);
         Check.due("face(2, 0)", x.face(2, 0), 132);
         Check.due("person(1, 3)", x.person(1, 3), NONE);
-        refused(x, "person -1", Check.INDEX, () -> x.person(-1, 0));
-        refused(x, "person 3", Check.INDEX, () -> x.person(3, 9));
-        refused(x, "person what 6", Check.NO_ELEMENT, () -> x.person(0, 6));
-        refused(x, "person what -1", Check.NO_ELEMENT, () -> x.person(0, -1));
-        refused(x, "face 3", Check.INDEX, () -> x.face(3, 9));
-        refused(x, "face what 4", Check.NO_ELEMENT, () -> x.face(2, 4));
-        refused(x, "face what -1", Check.NO_ELEMENT, () -> x.face(2, -1));
+        Check.refused(x, "person -1", Check.INDEX, () -> x.person(-1, 0));
+        Check.refused(x, "person 3", Check.INDEX, () -> x.person(3, 9));
+        Check.refused(x, "person what 6", Check.NO_ELEMENT, () -> x.person(0, 6));
+        Check.refused(x, "person what -1", Check.NO_ELEMENT, () -> x.person(0, -1));
+        Check.refused(x, "face 3", Check.INDEX, () -> x.face(3, 9));
+        Check.refused(x, "face what 4", Check.NO_ELEMENT, () -> x.face(2, 4));
+        Check.refused(x, "face what -1", Check.NO_ELEMENT, () -> x.face(2, -1));
         // 0 wears 1, 1 wears 2, 2 wears 0: from one's FACE to who WEARS it.
         x.change(0, 1);
         Check.due("ring of two", x.person(0, 5), 3);
@@ -73,16 +66,16 @@ public final class ActsTest {
         x.hand(1, 5);
         Check.due("hook 5", x.hook(5), 1);
         Check.due("hook 0", x.hook(0), NONE);
-        refused(x, "hook 6", Check.INDEX, () -> x.hook(6));
-        refused(x, "hook -1", Check.INDEX, () -> x.hook(-1));
+        Check.refused(x, "hook 6", Check.INDEX, () -> x.hook(6));
+        Check.refused(x, "hook -1", Check.INDEX, () -> x.hook(-1));
         Check.due("wish by numbers", x.wish(2, 0), 0);
         Check.due("wish by numbers", x.wish(2, 2), 2);
         Check.due("wish for those who came later", x.wish(0, 1), 1);
         Check.due("wish for those who came later", x.wish(0, 2), 2);
         Check.due("wish 3", x.wish(2, 3), NONE);
         Check.due("wish -1", x.wish(2, -1), NONE);
-        refused(x, "wish of 3", Check.INDEX, () -> x.wish(3, 0));
-        refused(x, "wish of -1", Check.INDEX, () -> x.wish(-1, 0));
+        Check.refused(x, "wish of 3", Check.INDEX, () -> x.wish(3, 0));
+        Check.refused(x, "wish of -1", Check.INDEX, () -> x.wish(-1, 0));
         Check.door(x, "wish 2 2 1;wish 2 1");
         Check.due("the later wish", x.wish(2, 0), 1);
         Check.due("the later wish", x.wish(2, 1), 0);
@@ -91,9 +84,9 @@ public final class ActsTest {
     private static void thinking() {
         HungFaces x = three();
         Check.due("thinks nothing", x.thinks(0, 1), 0);
-        refused(x, "thinks of oneself", Check.ARGUMENT, () -> x.thinks(1, 1));
-        refused(x, "thinks of none", Check.INDEX, () -> x.thinks(1, 3));
-        refused(x, "thinks by none", Check.INDEX, () -> x.thinks(-1, -1));
+        Check.refused(x, "thinks of oneself", Check.ARGUMENT, () -> x.thinks(1, 1));
+        Check.refused(x, "thinks of none", Check.INDEX, () -> x.thinks(1, 3));
+        Check.refused(x, "thinks by none", Check.INDEX, () -> x.thinks(-1, -1));
     }
 
     private static void logged(HungFaces x, int ago, int... row) {
@@ -110,21 +103,21 @@ public final class ActsTest {
         Check.due("wears none", x.person(0, 1), NONE);
         Check.due("ticket", x.person(0, 2), 3);
         logged(x, 0, 0, 0, 3, 1, 0);
-        refused(x, "hand by one without", Check.STATE, () -> x.hand(0, 0));
-        refused(x, "hand on a taken hook", Check.STATE, () -> x.hand(1, 3));
-        refused(x, "hand by none", Check.INDEX, () -> x.hand(3, 3));
-        refused(x, "hand on none", Check.INDEX, () -> x.hand(0, 6));
-        refused(x, "hand on -1", Check.INDEX, () -> x.hand(0, -1));
+        Check.refused(x, "hand by one without", Check.STATE, () -> x.hand(0, 0));
+        Check.refused(x, "hand on a taken hook", Check.STATE, () -> x.hand(1, 3));
+        Check.refused(x, "hand by none", Check.INDEX, () -> x.hand(3, 3));
+        Check.refused(x, "hand on none", Check.INDEX, () -> x.hand(0, 6));
+        Check.refused(x, "hand on -1", Check.INDEX, () -> x.hand(0, -1));
         x.steal(0, 3);
-        refused(x, "hand with a ticket", Check.STATE, () -> x.hand(0, 1));
+        Check.refused(x, "hand with a ticket", Check.STATE, () -> x.hand(0, 1));
         Check.due("acts", x.count(11), 3);
     }
 
     private static void fetching() {
         HungFaces x = three();
-        refused(x, "fetch without a ticket", Check.STATE, () -> x.fetch(0));
-        refused(x, "fetch by none", Check.INDEX, () -> x.fetch(3));
-        refused(x, "fetch by -1", Check.INDEX, () -> x.fetch(-1));
+        Check.refused(x, "fetch without a ticket", Check.STATE, () -> x.fetch(0));
+        Check.refused(x, "fetch by none", Check.INDEX, () -> x.fetch(3));
+        Check.refused(x, "fetch by -1", Check.INDEX, () -> x.fetch(-1));
         x.hand(0, 2);
         x.hand(1, 4);
         Check.due("fetch", x.fetch(0), 0);
@@ -133,23 +126,23 @@ public final class ActsTest {
         logged(x, 0, 0, 0, 2, 0, 1);
         x.hand(0, 0);
         x.steal(0, 4);
-        refused(x, "fetch by one who wears", Check.STATE, () -> x.fetch(0));
+        Check.refused(x, "fetch by one who wears", Check.STATE, () -> x.fetch(0));
         Check.due("fetch none", x.fetch(1), NONE);
         Check.due("ticket of none given up", x.person(1, 2), NONE);
         logged(x, 0, 0, 1, 4, NONE, 1);
-        refused(x, "fetch again", Check.STATE, () -> x.fetch(1));
+        Check.refused(x, "fetch again", Check.STATE, () -> x.fetch(1));
     }
 
     private static void mixing() {
         HungFaces x = three();
         x.hand(0, 2);
-        refused(x, "mix with one without", Check.STATE, () -> x.mix(0, 1));
-        refused(x, "mix by one without", Check.STATE, () -> x.mix(1, 0));
+        Check.refused(x, "mix with one without", Check.STATE, () -> x.mix(0, 1));
+        Check.refused(x, "mix by one without", Check.STATE, () -> x.mix(1, 0));
         x.hand(1, 4);
-        refused(x, "mix with oneself", Check.ARGUMENT, () -> x.mix(1, 1));
-        refused(x, "mix of oneself without", Check.ARGUMENT, () -> x.mix(2, 2));
-        refused(x, "mix with none", Check.INDEX, () -> x.mix(1, 3));
-        refused(x, "mix by none", Check.INDEX, () -> x.mix(-1, -1));
+        Check.refused(x, "mix with oneself", Check.ARGUMENT, () -> x.mix(1, 1));
+        Check.refused(x, "mix of oneself without", Check.ARGUMENT, () -> x.mix(2, 2));
+        Check.refused(x, "mix with none", Check.INDEX, () -> x.mix(1, 3));
+        Check.refused(x, "mix by none", Check.INDEX, () -> x.mix(-1, -1));
         Check.due("mix", x.mix(1, 0), 2);
         Check.due("first ticket", x.person(0, 2), 4);
         Check.due("other ticket", x.person(1, 2), 2);
@@ -162,10 +155,10 @@ public final class ActsTest {
     private static void stealing() {
         HungFaces x = three();
         x.hand(0, 2);
-        refused(x, "steal by one who wears", Check.STATE, () -> x.steal(1, 2));
-        refused(x, "steal of a free hook", Check.STATE, () -> x.steal(0, 3));
-        refused(x, "steal by none", Check.INDEX, () -> x.steal(3, 2));
-        refused(x, "steal of no hook", Check.INDEX, () -> x.steal(0, 6));
+        Check.refused(x, "steal by one who wears", Check.STATE, () -> x.steal(1, 2));
+        Check.refused(x, "steal of a free hook", Check.STATE, () -> x.steal(0, 3));
+        Check.refused(x, "steal by none", Check.INDEX, () -> x.steal(3, 2));
+        Check.refused(x, "steal of no hook", Check.INDEX, () -> x.steal(0, 6));
         x.hand(1, 3);
         Check.due("steal", x.steal(1, 2), 0);
         Check.due("ticket stays", x.person(0, 2), 2);
@@ -184,12 +177,12 @@ public final class ActsTest {
         Check.due("change", x.change(2, 0), 0);
         Check.due("other has it", x.person(0, 1), 2);
         Check.due("no row", x.count(10), 0);
-        refused(x, "change with oneself", Check.ARGUMENT, () -> x.change(1, 1));
-        refused(x, "change with none", Check.INDEX, () -> x.change(1, 3));
+        Check.refused(x, "change with oneself", Check.ARGUMENT, () -> x.change(1, 1));
+        Check.refused(x, "change with none", Check.INDEX, () -> x.change(1, 3));
         x.hand(1, 0);
-        refused(x, "change of none", Check.STATE, () -> x.change(1, 0));
-        refused(x, "change for none", Check.STATE, () -> x.change(0, 1));
-        refused(x, "change with oneself first", Check.ARGUMENT, () -> x.change(1, 1));
+        Check.refused(x, "change of none", Check.STATE, () -> x.change(1, 0));
+        Check.refused(x, "change for none", Check.STATE, () -> x.change(0, 1));
+        Check.refused(x, "change with oneself first", Check.ARGUMENT, () -> x.change(1, 1));
     }
 
     private static void shaving() {
@@ -197,10 +190,10 @@ public final class ActsTest {
         Check.due("shave", x.shave(2, 7), 1);
         Check.due("shaved", x.face(2, 0), 4);
         Check.due("marks together", x.count(9), 5);
-        refused(x, "shave again", Check.STATE, () -> x.shave(2, 7));
-        refused(x, "shave no mark", Check.INDEX, () -> x.shave(2, 8));
-        refused(x, "shave mark -1", Check.INDEX, () -> x.shave(2, -1));
-        refused(x, "shave no face", Check.INDEX, () -> x.shave(3, 0));
+        Check.refused(x, "shave again", Check.STATE, () -> x.shave(2, 7));
+        Check.refused(x, "shave no mark", Check.INDEX, () -> x.shave(2, 8));
+        Check.refused(x, "shave mark -1", Check.INDEX, () -> x.shave(2, -1));
+        Check.refused(x, "shave no face", Check.INDEX, () -> x.shave(3, 0));
         x.hand(2, 0);
         Check.due("shave on a hook", x.shave(2, 2), 0);
         Check.due("mask stays", x.person(2, 0), 1);
@@ -211,13 +204,13 @@ public final class ActsTest {
         Check.due("graft", x.graft(0, 2, 1), 3);
         Check.due("from", x.face(0, 0), 1);
         Check.due("to", x.face(2, 0), 134);
-        refused(x, "graft what it has not", Check.STATE, () -> x.graft(0, 2, 1));
-        refused(x, "graft what the other has", Check.STATE, () -> x.graft(0, 1, 0));
-        refused(x, "graft to itself", Check.ARGUMENT, () -> x.graft(0, 0, 0));
-        refused(x, "graft of itself what it has not", Check.ARGUMENT, () -> x.graft(0, 0, 5));
-        refused(x, "graft no mark", Check.INDEX, () -> x.graft(0, 0, 8));
-        refused(x, "graft to none", Check.INDEX, () -> x.graft(0, 3, 0));
-        refused(x, "graft of none", Check.INDEX, () -> x.graft(-1, 0, 0));
+        Check.refused(x, "graft what it has not", Check.STATE, () -> x.graft(0, 2, 1));
+        Check.refused(x, "graft what the other has", Check.STATE, () -> x.graft(0, 1, 0));
+        Check.refused(x, "graft to itself", Check.ARGUMENT, () -> x.graft(0, 0, 0));
+        Check.refused(x, "graft of itself what it has not", Check.ARGUMENT, () -> x.graft(0, 0, 5));
+        Check.refused(x, "graft no mark", Check.INDEX, () -> x.graft(0, 0, 8));
+        Check.refused(x, "graft to none", Check.INDEX, () -> x.graft(0, 3, 0));
+        Check.refused(x, "graft of none", Check.INDEX, () -> x.graft(-1, 0, 0));
     }
 
     private static void meeting() {
@@ -234,16 +227,16 @@ public final class ActsTest {
         Check.due("2 thinks", x.thinks(2, 0), 30);
         Check.due("meet again", x.meet(2, 0), 31);
         Check.due("acts", x.count(11), 3);
-        refused(x, "meet oneself", Check.ARGUMENT, () -> x.meet(2, 2));
-        refused(x, "meet none", Check.INDEX, () -> x.meet(2, 5));
-        refused(x, "none meets", Check.INDEX, () -> x.meet(-1, -1));
+        Check.refused(x, "meet oneself", Check.ARGUMENT, () -> x.meet(2, 2));
+        Check.refused(x, "meet none", Check.INDEX, () -> x.meet(2, 5));
+        Check.refused(x, "none meets", Check.INDEX, () -> x.meet(-1, -1));
     }
 
     private static void hoursByLaw() {
         HungFaces x = three();
-        refused(x, "hours 0", Check.ARGUMENT, () -> x.hours(0));
-        refused(x, "hours -1", Check.ARGUMENT, () -> x.hours(-1));
-        refused(x, "hours 51", Check.ARGUMENT, () -> x.hours(51));
+        Check.refused(x, "hours 0", Check.ARGUMENT, () -> x.hours(0));
+        Check.refused(x, "hours -1", Check.ARGUMENT, () -> x.hours(-1));
+        Check.refused(x, "hours 51", Check.ARGUMENT, () -> x.hours(51));
         Check.due("hours without a law", x.hours(50), 0);
         Check.due("hour", x.count(5), 50);
         Check.door(x, "hooks 2");

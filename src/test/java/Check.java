@@ -1,3 +1,9 @@
+import java.io.IOException;
+import java.nio.file.Files;
+import java.nio.file.Path;
+import java.util.Set;
+import java.util.TreeSet;
+
 /** What the tests share: telling a text, comparing answers, and ending with exit code 1 if one was not due. */
 final class Check {
     interface Call {
@@ -10,17 +16,51 @@ final class Check {
     static final String NO_ELEMENT = "NoSuchElementException";
     static final String UNSUPPORTED = "UnsupportedOperationException";
 
+    private static final Path DOCUMENT = Path.of("../shared/DOC.md");
+    private static final Set<String> TOLD = new TreeSet<>();
+    private static final Set<String> SECTIONS = new TreeSet<>();
+
     private static int made;
     private static int wrong;
+    private static String sentence = "";
 
     private Check() {
+    }
+
+    /** What is looked at from here on belongs to this sentence of the document, under "Terms" or "Promise 1". */
+    static void sentence(String section, String quote) {
+        sentence = "[" + section + ": " + quote + "] ";
+        due("the sentence is a new one", TOLD.add(sentence), true);
+        SECTIONS.add(section);
+        String all = document();
+        int begin = all.indexOf("## " + section + (section.equals("Terms") ? " " : ":"));
+        int end = all.indexOf(" ## ", begin + 1);
+        String part = begin < 0 ? "" : all.substring(begin, end < 0 ? all.length() : end);
+        due("the sentence stands in the document", all.isEmpty() || part.contains(quote), true);
+    }
+
+    private static String document() {
+        try {
+            return Files.readString(DOCUMENT).replaceAll("\\s+", " ");
+        } catch (IOException e) {
+            return "";
+        }
+    }
+
+    /** Whether each promise of these has had a sentence of its own. */
+    static void promisesSeen(int first, int last) {
+        sentence = "";
+        for (int promise = first; promise <= last; promise++) {
+            due("a sentence of promise " + promise, SECTIONS.contains("Promise " + promise), true);
+        }
+        System.out.println(TOLD.size() + " sentences");
     }
 
     static void due(String what, long got, long want) {
         made++;
         if (got != want) {
             wrong++;
-            System.out.println(what + " answered " + got + ", due is " + want);
+            System.out.println(sentence + what + " answered " + got + ", due is " + want);
         }
     }
 
@@ -32,7 +72,7 @@ final class Check {
         made++;
         if (!got.equals(want)) {
             wrong++;
-            System.out.println(what + " answered " + got + ", due is " + want);
+            System.out.println(sentence + what + " answered " + got + ", due is " + want);
         }
     }
 
@@ -41,8 +81,58 @@ final class Check {
         String got = thrownBy(call);
         if (!got.equals(want)) {
             wrong++;
-            System.out.println(what + " threw '" + got + "', due is '" + want + "'");
+            System.out.println(sentence + what + " threw '" + got + "', due is '" + want + "'");
         }
+    }
+
+    /** A call that throws leaves all as it was, and fault(), too. */
+    static void refused(HungFaces x, String what, String want, Call call) {
+        String before = seen(x);
+        int fault = x.fault();
+        throwsDue(what, want, call);
+        due(what + " changes nothing", seen(x).equals(before), true);
+        due(what + " leaves fault()", x.fault(), fault);
+    }
+
+    /** A wrong text that lies on the TAPE. */
+    static void refusedText(HungFaces x, String what, Call reading, int fault) {
+        String before = seen(x);
+        throwsDue(what, ARGUMENT, reading);
+        due("fault of " + what, x.fault(), fault);
+        due("nothing stays of " + what, seen(x).equals(before), true);
+        due("used up of " + what, x.end(1), false);
+    }
+
+    /** A wrong text: what it throws, its first wrong byte, that nothing stays, and that the TAPE is used up. */
+    static void wrongText(HungFaces x, String text, int fault, Call reading) {
+        x.end(0);
+        tape(x, text);
+        refusedText(x, "'" + text + "'", reading, fault);
+    }
+
+    static void wrongDoor(HungFaces x, String text, int fault) {
+        wrongText(x, text, fault, x::door);
+    }
+
+    static void wrongLaw(HungFaces x, String text, int fault) {
+        wrongText(x, text, fault, x::law);
+    }
+
+    /** A right text of THE DOOR: one more. */
+    static void rightDoor(HungFaces x, String text) {
+        int texts = x.count(3);
+        x.end(0);
+        tape(x, text);
+        due("door '" + text + "'", x.door(), texts + 1);
+        due("fault of '" + text + "'", x.fault(), HungFaces.NONE);
+    }
+
+    static void rightLaw(HungFaces x, String text, int lines) {
+        x.end(0);
+        tape(x, text);
+        due("law '" + text + "'", x.law(), lines);
+        due("lines of '" + text + "'", x.count(4), lines);
+        due("fault of '" + text + "'", x.fault(), HungFaces.NONE);
     }
 
     static String thrownBy(Call call) {
