@@ -27,13 +27,13 @@ final class Check {
     private Check() {
     }
 
-    /** What is looked at from here on belongs to this sentence of the document, under "Terms" or "Promise 1". */
+    /** What is looked at from here on belongs to this sentence of the document, under "Terms", "Promise 1" and their like. */
     static void sentence(String section, String quote) {
         sentence = "[" + section + ": " + quote + "] ";
         due("the sentence is a new one", TOLD.add(sentence), true);
         SECTIONS.add(section);
         String all = document();
-        int begin = all.indexOf("## " + section + (section.equals("Terms") ? " " : ":"));
+        int begin = all.indexOf("## " + section + (section.startsWith("Promise") ? ":" : " "));
         int end = all.indexOf(" ## ", begin + 1);
         String part = begin < 0 ? "" : all.substring(begin, end < 0 ? all.length() : end);
         due("the sentence stands in the document", all.isEmpty() || part.contains(quote), true);

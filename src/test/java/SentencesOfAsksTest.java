@@ -280,6 +280,7 @@ public final class SentencesOfAsksTest {
         alone.hand(0, 0);
         Check.due("none", alone.core(0), NONE);
         Check.sentence("Promise 30", "CORE: how many get another one.");
+        Check.due("asked first", told(4, "wish 0 1;wish 1 0").gains(), 2);
         Check.due("none brought any", alone.gains(), 0);
         Check.due("two of three", hung.gains(), 2);
         Check.due("another one than they brought, not than their own", worn.gains(), 0);
@@ -310,6 +311,9 @@ public final class SentencesOfAsksTest {
         for (int one = 0; one < 10; one++) {
             Check.due("a ring of ten without " + one, blocks(ten, 1023 & ~(1 << one)), false);
         }
+        HungFaces open = told(10, "wish 0 1 0;wish 1 2 1;wish 2 3 2;wish 3 4 3;wish 4 5 4;wish 5 6 5;wish 6 7 6;"
+                + "wish 7 8 7;wish 8 9 8;wish 9 9");
+        Check.due("ten, each wants the next one's, the last the own", blocks(open, 1023), false);
         HungFaces second = told(3, "wish 0 1 2 0;wish 1 0 1;wish 2 0 2");
         Check.due("not the dearest, but a dearer one", blocks(second, 5), true);
         Check.sentence("Promise 31", "BLOCK. IllegalStateException: one of the set WEARS no FACE.");
@@ -318,6 +322,10 @@ public final class SentencesOfAsksTest {
         Check.refused(x, "that one alone", Check.STATE, () -> x.block(16) ? 1 : 0);
         Check.refused(x, "with all bits", Check.STATE, () -> x.block(-1) ? 1 : 0);
         Check.due("not of the set", blocks(x, 6), true);
+        HungFaces bare = Check.crowd(2);
+        bare.hand(0, 0);
+        Check.refused(bare, "the first one", Check.STATE, () -> bare.block(3) ? 1 : 0);
+        Check.refused(bare, "the first one alone", Check.STATE, () -> bare.block(1) ? 1 : 0);
         Check.due("bits of none", blocks(x, -32), false);
         Check.due("bits of none and 1, 2", blocks(x, -26), true);
     }
@@ -453,6 +461,7 @@ public final class SentencesOfAsksTest {
         Check.due("two for one FACE", clash(x, 0, 0, 0, 0, 1, 0, 1, 0, 0, 1, 1, 0), 15);
         Check.sentence("Promise 34", "Uses the TAPE up: CLASH, as bits (the TAPE likewise). IllegalArgumentException:"
                 + " the TAPE is not that.");
+        Check.due("one by itself", clash(Check.crowd(1), 0, 0, 0), 1);
         Check.due("one alone who is not oneself", clash(Check.crowd(1), 0, 0, 1, 0, 0, 1, 0, 0, 0), 4);
         int[] twelve = new int[36];
         for (int i = 0; i < 11; i++) {
@@ -512,6 +521,13 @@ public final class SentencesOfAsksTest {
         Check.due("ten", ten.queue(NONE), 2 + 3 + 4 + 5 + 6 + 7 + 8 + 9 + 10 + 11 + 55);
         Check.due("the first of ten", ten.queue(0), 9);
         Check.due("the last of ten", ten.queue(9), 0);
+        HungFaces three = told(3, "hooks 12");
+        three.hand(0, 0);
+        three.hand(1, 1);
+        three.hand(2, 11);
+        for (int k = 0; k < 3; k++) {
+            Check.due("as they are numbered", three.queue(k), k);
+        }
         Check.due("no 11th", ten.queue(10), NONE);
     }
 

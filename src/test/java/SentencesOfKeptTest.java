@@ -27,6 +27,7 @@ public final class SentencesOfKeptTest {
     }
 
     private static void calls() {
+        Check.sentence("What it is", "An object is used for at most 512 calls after it has been made");
         HungFaces x = Check.crowd(10);
         Check.law(x, "hand;fetch");
         // 512 calls of the dearest kind find their room and their end.

@@ -99,6 +99,10 @@ public final class SentencesOfTextsTest {
             Check.due("of the first", ten.wish(0, k), k);
             Check.due("of the last", ten.wish(9, k), k);
         }
+        HungFaces third = Check.opened(TWO + ";wish 0 1;wish 1 1;" + ONE);
+        for (int k = 0; k < 3; k++) {
+            Check.due("by numbers, whatever the others wish", third.wish(2, k), k);
+        }
         Check.due("no more than all", ten.wish(9, 10), NONE);
         Check.sentence("Terms", "HOOKS (1 to 12, numbered from 0 on; 6 at first) in a row: a FACE each, or none.");
         HungFaces y = new HungFaces();
@@ -463,7 +467,7 @@ public final class SentencesOfTextsTest {
         z.steal(0, 3);
         Check.law(z, "fetch if marks>0");
         Check.due("none hangs there", z.hours(1), 0);
-        Check.law(z, "fetch if marks<1");
+        Check.law(z, "fetch if marks+1>0 and marks+1<2");
         Check.due("0, if none does", z.hours(1), 1);
         Check.due("it was the other one", z.count(8), 1);
         Check.sentence("Terms", "hung, free: HOOKS with a FACE, without one");
@@ -511,6 +515,8 @@ public final class SentencesOfTextsTest {
         Check.sentence("Terms", "Words are as long as a to z go on");
         HungFaces x = Check.opened(TWO);
         Check.wrongLaw(x, "handif own", 0);
+        Check.wrongLaw(x, "handz", 0);
+        Check.wrongLaw(x, "handa", 0);
         Check.wrongLaw(x, "hand ifown", 5);
         Check.wrongLaw(x, "hand if notown", 8);
         Check.wrongLaw(x, "hand if ownand wed", 8);
@@ -628,6 +634,18 @@ public final class SentencesOfTextsTest {
         Check.wrongDoor(ten, "person", 0);
         String laws = lines("hand", 12);
         Check.wrongLaw(x, laws + ";  hand if 1234", laws.length() + 3);
+        Check.sentence("Terms", "The first wrong byte: the begin of the first thing that cannot stand there");
+        String[] signs = {";", "<", "(", ")", "+", "x", "1", "=", "" + (char) 255};
+        for (String sign : signs) {
+            Check.wrongDoor(x, sign.repeat(400), 0);
+            Check.wrongLaw(x, sign.repeat(400), 0);
+            Check.wrongDoor(x, " " + sign.repeat(399), 1);
+            Check.wrongLaw(x, (sign + " ").repeat(200), 0);
+        }
+        Check.wrongDoor(x, "mix 1" + ";".repeat(395), 6);
+        Check.wrongLaw(x, "hand" + ";".repeat(396), 5);
+        Check.wrongLaw(x, "hand if " + "(".repeat(392), 14);
+        Check.wrongDoor(x, "mix 1;mix 2;mix 101;mix 102;x", 16);
         Check.sentence("Terms", "or the text's length, if more must come.");
         Check.wrongDoor(x, "mix 1;", 6);
         Check.wrongDoor(x, "mix 1;   ", 9);
