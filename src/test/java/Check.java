@@ -27,7 +27,7 @@ final class Check {
     private Check() {
     }
 
-    /** What is looked at from here on belongs to this sentence of the document, under "Terms", "Promise 1" and their like. */
+    /** What is looked at from here on belongs to this sentence of the document, of the section "Promise 1", say. */
     static void sentence(String section, String quote) {
         sentence = "[" + section + ": " + quote + "] ";
         due("the sentence is a new one", TOLD.add(sentence), true);

@@ -106,8 +106,8 @@ public final class SentencesOfAsksTest {
         alike.shave(1, 7);
         Check.due("SHAVED to the same", alike.face(2, 3), 2);
         Check.due("no more", alike.face(0, 3), 0);
-        Check.sentence("Terms", "RING of a PERSON: all to whom one comes by going on to the PERSON who WEARS one's FACE,"
-                + " that one's FACE, .. (oneself, too), as bits.");
+        Check.sentence("Terms", "RING of a PERSON: all to whom one comes by going on to the PERSON who WEARS one's"
+                + " FACE, that one's FACE, .. (oneself, too), as bits.");
         HungFaces x = Check.crowd(10);
         Check.due("oneself", x.person(9, 5), 512);
         for (int one = 0; one < 9; one++) {
@@ -347,9 +347,9 @@ public final class SentencesOfAsksTest {
     }
 
     private static void fits() {
-        Check.sentence("Terms", "SAID: one's FACE is, or is not, that of some number: OWNERS (each PERSON has one of the"
-                + " FACES 0 to the last, no two one) by which all SAID is so: how many; the FACE that is a PERSON's in"
-                + " all of these; none.");
+        Check.sentence("Terms", "SAID: one's FACE is, or is not, that of some number: OWNERS (each PERSON has one of"
+                + " the FACES 0 to the last, no two one) by which all SAID is so: how many; the FACE that is a"
+                + " PERSON's in all of these; none.");
         HungFaces x = Check.crowd(3);
         Check.due("nothing SAID", fits(x, NONE), 6);
         Check.due("it is", fits(x, NONE, 2, 0, 1), 2);
@@ -410,8 +410,8 @@ public final class SentencesOfAsksTest {
     }
 
     private static void ask() {
-        Check.sentence("Terms", "ASK, of a PERSON: the FACE by which these OWNERS are parted (it is that one, or not) so"
-                + " that the greater part is the least (of several the least; none with fewer than two).");
+        Check.sentence("Terms", "ASK, of a PERSON: the FACE by which these OWNERS are parted (it is that one, or not)"
+                + " so that the greater part is the least (of several the least; none with fewer than two).");
         HungFaces x = Check.crowd(4);
         Check.due("of several the least", ask(x, 3), 0);
         Check.due("not one that it is not", ask(x, 3, 3, 0, 0), 1);
@@ -422,7 +422,8 @@ public final class SentencesOfAsksTest {
         Check.due("of none", ask(x, 2, 0, 0, 1, 1, 0, 1), NONE);
         Check.due("whose is told: no FACE parts them, the least", ask(x, 1, 1, 3, 1), 0);
         Check.sentence("Promise 33", "Uses the TAPE up: ASK of a PERSON (the TAPE likewise); NONE."
-                + " IndexOutOfBoundsException: there is no such PERSON; IllegalArgumentException: the TAPE is not that.");
+                + " IndexOutOfBoundsException: there is no such PERSON; IllegalArgumentException: the TAPE is not"
+                + " that.");
         Check.due("of the last of ten", ask(Check.crowd(10), 9), 0);
         Check.due("of two", ask(Check.crowd(2), 1), 0);
         Check.due("of one alone", ask(Check.crowd(1), 0), NONE);
@@ -445,8 +446,8 @@ public final class SentencesOfAsksTest {
     }
 
     private static void clash() {
-        Check.sentence("Terms", "CLASH: the fewest of all SAID that cannot be so together: of several the least as bits;"
-                + " 0, if all can.");
+        Check.sentence("Terms", "CLASH: the fewest of all SAID that cannot be so together: of several the least as"
+                + " bits; 0, if all can.");
         HungFaces x = Check.crowd(3);
         Check.due("nothing SAID", clash(x), 0);
         Check.due("all can", clash(x, 0, 1, 1, 1, 0, 1, 2, 0, 0), 0);
@@ -568,8 +569,8 @@ public final class SentencesOfAsksTest {
     }
 
     private static void ways() {
-        Check.sentence("Terms", "WAYS: all TICKETS are given out anew among those who have some: in how many of all ways"
-                + " just M have the one that they have now (two TICKETS of one HOOK are two).");
+        Check.sentence("Terms", "WAYS: all TICKETS are given out anew among those who have some: in how many of all"
+                + " ways just M have the one that they have now (two TICKETS of one HOOK are two).");
         int[][] due = {{1, 0}, {0, 1, 0}, {1, 0, 1, 0}, {2, 3, 0, 1, 0}, {9, 8, 6, 0, 1, 0}};
         for (int holders = 0; holders < due.length; holders++) {
             HungFaces x = Check.crowd(5);
@@ -626,8 +627,8 @@ public final class SentencesOfAsksTest {
         Check.due("nobody", new HungFaces().talk(5), 0);
         HungFaces six = new HungFaces();
         refusedOf(six, "talk", Check.INDEX, new int[] {6, 11}, six::talk);
-        Check.sentence("Promise 39", "HOOKS of the longest ROW: how many (begin false), or the first of these (of several"
-                + " the least; NONE).");
+        Check.sentence("Promise 39", "HOOKS of the longest ROW: how many (begin false), or the first of these (of"
+                + " several the least; NONE).");
         Check.due("no ROW", new HungFaces().row(false), 0);
         Check.due("no ROW", new HungFaces().row(true), NONE);
         Check.due("its first", x.row(true), 0);
@@ -668,8 +669,8 @@ public final class SentencesOfAsksTest {
     }
 
     private static void hears() {
-        Check.sentence("Terms", "HEARS by N rounds (0 to 20): in each one all two who KNOW each other meet (by numbers of"
-                + " the lesser, then of the other one): whom a PERSON KNOWS then (nothing stays).");
+        Check.sentence("Terms", "HEARS by N rounds (0 to 20): in each one all two who KNOW each other meet (by numbers"
+                + " of the lesser, then of the other one): whom a PERSON KNOWS then (nothing stays).");
         HungFaces x = told(10, "knows 0 1;knows 1 0 2;knows 2 1 3;knows 3 2 9;knows 4 0;knows 5 6;knows 6 5");
         String before = Check.seen(x);
         Check.due("no round: as it is", x.hears(1, 0), 5);
@@ -761,7 +762,8 @@ public final class SentencesOfAsksTest {
         }
         Check.due("they are not all the same", unlike > 5, true);
         eachSeedCounts();
-        Check.sentence("Promise 43", "SPAN: the fewest (most false), or the most. IllegalArgumentException: N is none.");
+        Check.sentence("Promise 43", "SPAN: the fewest (most false), or the most. IllegalArgumentException: N is"
+                + " none.");
         HungFaces y = Check.crowd(4);
         y.change(0, 3);
         Check.due("0 HOURS: the fewest", y.span(0, false), 2);
@@ -773,7 +775,7 @@ public final class SentencesOfAsksTest {
         }
     }
 
-    /** For each SEED of 1 to 6, a carnival in which that one alone has the most; for 0 and 7 one in which they would. */
+    /** For each SEED of 1 to 6 a carnival in which that one alone has the most; 0 and 7 would have more in some. */
     private static void eachSeedCounts() {
         int found = 0;
         for (int hours = 1; hours <= 30; hours++) {

@@ -139,8 +139,8 @@ public final class SentencesOfKeptTest {
     }
 
     private static void theImage() {
-        Check.sentence("Terms", "THE IMAGE (one) of all may be kept, and gone back to (but for the TAPE, fault() and THE"
-                + " IMAGE itself).");
+        Check.sentence("Terms", "THE IMAGE (one) of all may be kept, and gone back to (but for the TAPE, fault() and"
+                + " THE IMAGE itself).");
         HungFaces x = Check.crowd(4);
         Check.door(x, "mix 5;thief 6;hooks 7;wed 0 1;wish 2 3;knows 3 0");
         Check.law(x, "hand if hour<3;fetch");
@@ -351,9 +351,9 @@ public final class SentencesOfKeptTest {
     }
 
     private static void count() {
-        Check.sentence("Promise 50", "0 PEOPLE, 1 HOOKS, 2 FACES that hang, 3 texts of THE DOOR, 4 LINES of THE LAW (NONE"
-                + " without one), 5 HOUR, 6 MIX, 7 THIEF, 8 who has a TICKET, as bits, 9 MARKS of all FACES together,"
-                + " 10 rows of THE LOG, 11 acts that can be UNDONE.");
+        Check.sentence("Promise 50", "0 PEOPLE, 1 HOOKS, 2 FACES that hang, 3 texts of THE DOOR, 4 LINES of THE LAW"
+                + " (NONE without one), 5 HOUR, 6 MIX, 7 THIEF, 8 who has a TICKET, as bits, 9 MARKS of all FACES"
+                + " together, 10 rows of THE LOG, 11 acts that can be UNDONE.");
         HungFaces x = Check.opened("person 11111111 00000000;person 00000001 11111111;person 00000000 11111111;"
                 + "hooks 8;mix 3;thief 4");
         int[] first = {3, 8, 0, 1, NONE, 0, 3, 4, 0, 9, 0, 0};
