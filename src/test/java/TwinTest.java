@@ -21,7 +21,7 @@ public final class TwinTest {
         "graft 4 ppm", "meet 5 pp", "hours 6 50", "wrong 3", "lost 1", "unclaimed 1", "swaps 4", "saved 3", "marks 2",
         "unknown 1", "passes 2 255 8", "core 4 p", "gains 2", "block 6 s", "fits 3 p", "ask 3 p", "clash 3",
         "queue 4 10", "forged 4 255", "ways 3 10", "talk 4 h", "row 2 b", "chain 3 pp", "hears 4 p20", "trial 3 30",
-        "span 2 30b", "led 3 pb", "log 6 60 4", "seed 2 i", "undo 12", "image 1", "back 1", "count 4 11"};
+        "span 6 30b", "led 3 pb", "log 6 60 4", "seed 2 i", "undo 12", "image 1", "back 1", "count 4 11"};
 
     private static final Random RANDOM = new Random(14);
     private static final Map<String, Integer> ANSWERED = new TreeMap<>();
@@ -44,6 +44,8 @@ public final class TwinTest {
     }
 
     private void run(List<String> often) throws ReflectiveOperationException {
+        call("fault");
+        call("end", 1);
         tell(TwinWords.people(RANDOM));
         call("door");
         tell(TwinWords.law(RANDOM));

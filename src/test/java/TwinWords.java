@@ -17,7 +17,8 @@ final class TwinWords {
         StringBuilder text = new StringBuilder();
         int many = random.nextInt(11);
         for (int i = 0; i < many; i++) {
-            text.append(i == 0 ? "" : ";").append("person ").append(figures(random)).append(' ').append(figures(random));
+            text.append(i == 0 ? "" : ";").append("person ").append(figures(random));
+            text.append(' ').append(figures(random));
         }
         return text.toString();
     }
@@ -32,7 +33,7 @@ final class TwinWords {
             many += kind == 6 ? 1 : 0;
             text.append(doorLine(random, kind, many));
         }
-        return spoilt(random, text.toString());
+        return filled(random, spoilt(random, text.toString()));
     }
 
     private static String doorLine(Random random, int kind, int people) {
@@ -77,7 +78,7 @@ final class TwinWords {
                 text.append(" if ").append(condition(random, lines > 9 ? 9 : 0));
             }
         }
-        return spoilt(random, text.toString());
+        return filled(random, spoilt(random, text.toString()));
     }
 
     private static String condition(Random random, int deep) {
@@ -112,6 +113,17 @@ final class TwinWords {
         return kind < 6 ? parts[kind] : "" + random.nextInt(kind == 6 ? 1100 : 7);
     }
 
+    /** Now and then blanks fill the whole TAPE, or more than it takes. */
+    static String filled(Random random, String text) {
+        int kind = random.nextInt(30);
+        String blanks = " ".repeat(kind == 0 ? 421 : 400);
+        if (kind > 2 || text.isEmpty()) {
+            return text;
+        }
+        int at = text.indexOf(';') + 1;
+        return text.substring(0, at) + blanks.substring(Math.min(text.length(), 400)) + text.substring(at);
+    }
+
     /** Now and then a byte is put in, taken out or another one, or all behind some byte is gone. */
     private static String spoilt(Random random, String text) {
         String few = text.substring(0, Math.min(text.length(), 400));
@@ -136,8 +148,13 @@ final class TwinWords {
             text.append((char) random.nextInt(Math.max(1, people)));
             text.append((char) (random.nextInt(4) == 0 ? 1 : 0));
         }
-        if (random.nextInt(12) == 0) {
+        int spoilt = random.nextInt(60);
+        if (spoilt < 5) {
             text.append((char) random.nextInt(256));
+        } else if (spoilt < 15 && many > 0) {
+            // The least PERSON, FACE or third byte that is none.
+            int at = random.nextInt(text.length());
+            text.setCharAt(at, (char) (at % 3 == 2 ? 2 : people));
         }
         return text.toString();
     }
