@@ -480,9 +480,28 @@ public final class SentencesOfAsksTest {
         most[30] = 3;
         most[33] = 2;
         Check.due("ten together", clash(Check.crowd(10), most), 1023);
+        HungFaces ten = Check.crowd(10);
+        for (int only = 0; only < 10; only++) {
+            Check.due("FACE 9 is left for " + only + " alone", clash(ten, allButOneAreNot(9, only)), 0);
+            Check.due("FACE 0 is left for " + only + " alone", clash(ten, allButOneAreNot(0, only)), 0);
+        }
         wrongTape(x, new int[39]);
         wrongTape(x, 0);
         Check.due("nobody", new HungFaces().clash(), 0);
+    }
+
+    /** If all have other FACES first, up to nine of them must give theirs on till the only one gets the last. */
+    private static int[] allButOneAreNot(int face, int only) {
+        int[] said = new int[27];
+        int at = 0;
+        for (int one = 0; one < 10; one++) {
+            if (one != only) {
+                said[at] = one;
+                said[at + 1] = face;
+                at += 3;
+            }
+        }
+        return said;
     }
 
     private static void queue() {

@@ -139,9 +139,24 @@ final class TwinWords {
         return all.substring(0, Math.min(all.length(), 400));
     }
 
+    /** A FACE that only few can have is the hardest to give. */
+    private static String allButSomeAreNot(Random random, int people) {
+        StringBuilder text = new StringBuilder();
+        int face = random.nextInt(Math.max(1, people));
+        for (int one = 0; one < people; one++) {
+            if (random.nextInt(Math.max(1, people)) > 0) {
+                text.append((char) one).append((char) face).append((char) 0);
+            }
+        }
+        return text.toString();
+    }
+
     static String said(Random random, int people) {
         StringBuilder text = new StringBuilder();
         int many = random.nextInt(random.nextInt(4) == 0 ? 14 : 7);
+        if (random.nextInt(8) == 0) {
+            return allButSomeAreNot(random, people);
+        }
         int of = random.nextBoolean() ? people : Math.min(people, 1 + random.nextInt(4));
         for (int i = 0; i < many; i++) {
             text.append((char) random.nextInt(Math.max(1, of)));
