@@ -11,7 +11,7 @@ import java.util.TreeSet;
 import java.util.function.IntPredicate;
 
 /**
- * The whole document a second time, written from its words alone, plainly and in other ways than the class:
+ * The whole document a second time, plainly and in other ways than the class:
  * lists and sets in place of bits, trees in place of code, closures, formulas and tables in place of searches.
  */
 public final class Twin {
